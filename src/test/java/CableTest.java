@@ -70,6 +70,9 @@ public final class CableTest {
         Check.due("the far end stays", x.wire(1, 0), 0);
         Check.due("exchange(1, 2, 1)", x.exchange(1, 2, 1), 1);
         Check.due("wire(1, 1)", x.wire(1, 1), 2);
+        Check.due("exchange(1, 6, 0)", x.exchange(1, 6, 0), 0);
+        Check.due("exchange(0, 2, 3)", x.exchange(0, 2, 3), 0);
+        Check.due("exchange(0, 7, 0)", x.exchange(0, 7, 0), 7);
         Check.due("the near end stays", x.wire(0, 1), 1);
         Check.dueThrow(x, Check.ARGUMENT, "exchange(2, 0, 1)", () -> x.exchange(2, 0, 1));
         Check.dueThrow(x, Check.ARGUMENT, "exchange(-1, 0, 1)", () -> x.exchange(-1, 0, 1));

@@ -26,17 +26,24 @@ final class Check {
         note(got.equals(want), what + " answered " + got + ", due is " + want);
     }
 
-    /** The call must throw just this class, and change nothing. */
+    /** The call must throw just this class, by a throw of its own, and change nothing. */
     static void dueThrow(CableTester tester, Class<? extends RuntimeException> kind, String what, Call call) {
         long before = tester.digest();
         String got;
         try {
             got = "answered " + call.answer();
         } catch (RuntimeException e) {
-            got = e.getClass() == kind ? "" : "threw " + e.getClass().getName();
+            boolean own = isThrownBy(e, "CableTester");
+            got = e.getClass() == kind && own ? "" : "threw " + e.getClass().getName() + (own ? "" : " from outside");
         }
         note(got.isEmpty(), what + " " + got + ", due is a throw of " + kind.getName());
         note(tester.digest() == before, what + " throws and changes something");
+    }
+
+    /** What the library throws is never due. */
+    static boolean isThrownBy(RuntimeException e, String className) {
+        StackTraceElement[] trace = e.getStackTrace();
+        return trace.length > 0 && trace[0].getClassName().equals(className);
     }
 
     static void type(CableTester tester, String text) {

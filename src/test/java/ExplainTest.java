@@ -9,6 +9,7 @@ public final class ExplainTest {
         shorts();
         exchanges();
         splits();
+        explainedAlone();
         fewestCutsFirst();
         freePins();
         smallestPermutation();
@@ -100,6 +101,20 @@ public final class ExplainTest {
         dueNumbers(x, 0, 0, 1, 2);
     }
 
+    /** Neither of the two calls relies on what the other one found. */
+    private static void explainedAlone() {
+        CableTester x = new CableTester();
+        x.exchange(1, 0, 1);
+        Check.due("explained(0)", x.explained(0), 1);
+        x.exchange(1, 0, 1);
+        Check.due("explained(0)", x.explained(0), 0);
+        x.exchange(0, 2, 4);
+        Check.due("exchanges", x.explain(2), 1);
+        x.cut(0, 5, 1, 1);
+        Check.due("cuts", x.explain(0), 1);
+        Check.due("explained(4)", x.explained(4), 2);
+    }
+
     private static void fewestCutsFirst() {
         CableTester x = new CableTester();
         for (int pin = 0; pin < 7; pin++) {
@@ -123,6 +138,22 @@ public final class ExplainTest {
         x.cut(1, 5, 1, 1);
         dueNumbers(x, 2, 0, 0, 0);
         duePermutation(x, 0, 1, 2, 3, 4, 5, 6, 7);
+        // the near pins 2 and 3 share the far pin 5; the near pin 5 and the far pins 2 and 3 are alone
+        x.begin(100, 66);
+        x.exchange(1, 2, 5);
+        x.connect(2, 3, 10, 1, 1);
+        x.cut(3, 20, 1, 1);
+        x.cut(5, 20, 1, 1);
+        dueNumbers(x, 2, 1, 1, 0);
+        duePermutation(x, 0, 1, 2, 5, 4, 3, 6, 7);
+        // the same with the far pin 0
+        x.begin(100, 66);
+        x.exchange(1, 2, 0);
+        x.connect(2, 3, 10, 1, 1);
+        x.cut(3, 20, 1, 1);
+        x.cut(0, 20, 1, 1);
+        dueNumbers(x, 2, 1, 1, 0);
+        duePermutation(x, 2, 1, 0, 3, 4, 5, 6, 7);
         // the near pins 0 and 1 share the far pin 1; the near pin 2 is joined to the far pin 0
         x.begin(100, 66);
         x.exchange(1, 0, 2);

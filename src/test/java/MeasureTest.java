@@ -178,6 +178,17 @@ public final class MeasureTest {
         x.connect(0, 1, 50, 1, 1);
         x.cut(0, 50, 1, 1);
         dueKindAndPlace(x, 0, 1, 50);
+        // a cut or a short that was added later, but is farther away
+        x.connect(0, 2, 51, 1, 1);
+        dueKindAndPlace(x, 0, 1, 50);
+        x.cut(1, 70, 1, 1);
+        dueKindAndPlace(x, 1, 1, 50);
+        x.cut(6, 40, 1, 1);
+        x.connect(6, 5, 41, 1, 1);
+        x.cut(6, 60, 1, 1);
+        dueKindAndPlace(x, 6, 0, 40);
+        x.connect(7, 5, 30, 1, 1);
+        dueKindAndPlace(x, 5, 1, 30);
     }
 
     private static void echoRounding() {
@@ -236,6 +247,9 @@ public final class MeasureTest {
         Check.due("no pair is left", x.identify(), CableTester.NONE);
         x.pass(2);
         Check.due("a pair again", x.identify(), 42);
+        for (int pair = 0; pair < 4; pair++) {
+            identifyBy(pair);
+        }
         x.begin(100, 66);
         x.plug(9);
         x.cut(5, 10, 1, 1);
@@ -254,6 +268,23 @@ public final class MeasureTest {
         x.exchange(0, 5, 7);
         x.exchange(0, 4, 6);
         Check.due("two good pairs", x.identify(), 9);
+    }
+
+    /** One pair is left: its first and its second pin must both be good. */
+    private static void identifyBy(int pair) {
+        CableTester x = new CableTester();
+        x.plug(1 + pair);
+        for (int other = 0; other < 4; other++) {
+            if (other != pair) {
+                x.connect(2 * other, 2 * other + 1, 10, 1, 1);
+            }
+        }
+        Check.due("identify by pair " + pair, x.identify(), 1 + pair);
+        x.cut(2 * pair, 10, 1, 1);
+        Check.due("its first pin is open", x.identify(), CableTester.NONE);
+        x.repair(3);
+        x.cut(2 * pair + 1, 10, 1, 1);
+        Check.due("its second pin is open", x.identify(), CableTester.NONE);
     }
 
     private static void dueJoined(CableTester x, int pin, int nearNear, int nearFar, int farFar) {

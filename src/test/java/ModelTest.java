@@ -40,16 +40,16 @@ public final class ModelTest {
 
     private void both(String name, Check.Call mine, Check.Call due) {
         log.append(' ').append(name);
-        String got = outcome(mine);
-        String want = outcome(due);
+        String got = outcome(mine, "CableTester");
+        String want = outcome(due, "Model");
         Check.dueText(got.equals(want) ? name : log.toString(), got, want);
     }
 
-    private static String outcome(Check.Call call) {
+    private static String outcome(Check.Call call, String thrower) {
         try {
             return "" + call.answer();
         } catch (IllegalArgumentException | IndexOutOfBoundsException | IllegalStateException e) {
-            return e.getClass().getName();
+            return e.getClass().getName() + (Check.isThrownBy(e, thrower) ? "" : " from outside");
         }
     }
 

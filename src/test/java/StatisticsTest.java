@@ -127,6 +127,12 @@ public final class StatisticsTest {
         Check.due("one record is left", x.suspect(), 6);
         x.pass(1);
         Check.due("none is left", x.suspect(), CableTester.NONE);
+        for (int pin = 7; pin >= 0; pin--) {
+            x.begin(100, 66);
+            x.cut(pin, 10, 1, 1);
+            x.pass(1);
+            Check.due("suspect of one record", x.suspect(), pin);
+        }
     }
 
     private static void nextChange() {
@@ -187,6 +193,12 @@ public final class StatisticsTest {
         Check.due("129 of 512", x.wrongShare(), 129.0 / 512);
         x.begin(100, 66);
         Check.due("wrongShare after begin", x.wrongShare(), 0.0);
+        for (int wire = 0; wire < 8; wire++) {
+            x.begin(100, 66);
+            x.cut(wire, 10, 1, 1);
+            x.pass(1);
+            Check.due("one of 8", x.wrongShare(), 0.125);
+        }
     }
 
     private static void dueRecords(CableTester x, int pin, int... due) {

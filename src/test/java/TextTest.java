@@ -12,7 +12,7 @@ public final class TextTest {
     };
     /** The first error is the last character. */
     private static final String[] BROKEN = {
-        "x", "C", "0", ";", "@", "c8", "c9", "cc", "c;", "c0;", "c01", "c0/", "c0@0", "c0@;", "c0@/", "c0@c", "c0@999",
+        "x", "C", "0", ";", "@", "c8", "c9", "c/", "s/", "s0/", "n5/", "c0@:", "cc", "c;", "c0;", "c01", "c0/", "c0@0", "c0@;", "c0@/", "c0@c", "c0@999",
         "c0@1000", "c0@1234", "c0@1:", "c0@1@", "c0@1s", "c0@1/0", "c0@1/;", "c0@1/:", "c0@1/33", "c0@1/40",
         "c0@1/320", "c0@1/100", "c0@1/3;", "c0@1/3:0", "c0@1/3:4", "c0@1/3:;", "c0@1/3:11", "c0@1/12:13",
         "c0@1/32:33", "c0@1/32:4x", "c0@1/9:1/", "c0@1/3:3:", "c0@1/9:10", "s00", "s8", "s08", "s0@", "s01;", "s012",
@@ -111,6 +111,12 @@ public final class TextTest {
         Check.dueThrow(x, Check.STATE, "place 100 of 100", x::load);
         x.begin(101, 66);
         Check.due("place 100 of 101", x.load(), 3);
+        Check.type(x, "c0@101;n01");
+        Check.dueThrow(x, Check.STATE, "place 101 of 101", x::load);
+        x.clearBuffer();
+        Check.type(x, "s01@998");
+        Check.dueThrow(x, Check.STATE, "place 998 of 101", x::load);
+        x.clearBuffer();
         Check.type(x, "c0@900;c");
         Check.dueThrow(x, Check.ARGUMENT, "not complete, and too far", x::load);
         x.clearBuffer();
@@ -124,7 +130,7 @@ public final class TextTest {
         Check.due("faults", x.count(4), 10);
         Check.type(x, "n01");
         Check.due("an exchange beside 10 faults", x.load(), 1);
-        Check.type(x, "c0@1");
+        Check.type(x, "c0@1;n01");
         Check.dueThrow(x, Check.STATE, "a cut beside 10 faults", x::load);
     }
 
