@@ -98,7 +98,7 @@ public final class CableTester {
         for (int i = 0; i < ticks; i++) {
             cable.tick++;
             measureOnwards(cable.tick);
-            history.note(nets.wrongPins());
+            history.note(nets.wrongPins);
         }
         return cable.tick;
     }
@@ -183,10 +183,10 @@ public final class CableTester {
 
     public int nextChange() {
         measure();
-        int wrongNow = nets.wrongPins();
+        int wrongNow = nets.wrongPins;
         for (int ahead = 1; ahead <= MOST_TICKS; ahead++) {
             measureOnwards(cable.tick + ahead);
-            if (nets.wrongPins() != wrongNow) {
+            if (nets.wrongPins != wrongNow) {
                 return ahead;
             }
         }
@@ -379,7 +379,7 @@ public final class CableTester {
             case 4: return cable.faults.size();
             case 5: return Integer.bitCount(nets.present);
             case 6: return nets.size();
-            case 7: return Integer.bitCount(nets.wrongPins());
+            case 7: return Integer.bitCount(nets.wrongPins);
             default: return cable.splitPairs();
         }
     }
@@ -431,10 +431,6 @@ public final class CableTester {
 
         boolean touches(int someWire) {
             return wire == someWire || other == someWire;
-        }
-
-        boolean isCutBefore(int someWire, int somePlace) {
-            return !isShort() && (wire < someWire || wire == someWire && place < somePlace);
         }
 
         boolean isMetBefore(Fault that) {
@@ -505,20 +501,6 @@ public final class CableTester {
                 }
             }
             return present;
-        }
-
-        /**
-         * The number of the piece of a wire just before a place (or at it, where it is not cut), all pieces
-         * of all wires being counted from the near end of wire 0 to the far end of wire 7.
-         */
-        int pieceAt(int wire, int place, int present) {
-            int piece = wire;
-            for (int i = 0; i < faults.size(); i++) {
-                if ((present >> i & 1) != 0 && faults.get(i).isCutBefore(wire, place)) {
-                    piece++;
-                }
-            }
-            return piece;
         }
 
         int echoAt(int pin, int what) {
@@ -642,39 +624,83 @@ public final class CableTester {
     /** Which contacts are joined while a set of faults is present. */
     private static final class Nets {
         private int present;
+        private int wrongPins;
+        private int cuts;
+        private final int[] cutWires = new int[MOST_FAULTS];
+        private final int[] cutPlaces = new int[MOST_FAULTS];
         /** Each wire has a piece more than cuts. */
         private final Groups pieces = new Groups(PINS + MOST_FAULTS);
-        private final int[] groupOfContact = new int[CONTACTS];
-        /** For each contact, all contacts of its net. */
+        /** For each contact the group of its piece, which stands for its net. */
+        private final int[] netOf = new int[CONTACTS];
+        /** For each contact all contacts of its net. */
         private final int[] members = new int[CONTACTS];
 
         void measure(Cable cable, int presentFaults) {
             present = presentFaults;
+            collectCuts(cable);
+            uniteShortedPieces(cable);
+            for (int pin = 0; pin < PINS; pin++) {
+                netOf[pin] = pieces.groupOf(pieceAt(cable.wireAt(NEAR, pin), 0));
+                netOf[PINS + pin] = pieces.groupOf(pieceAt(cable.wireAt(FAR, pin), cable.length));
+            }
+            collectMembers();
+            collectWrongPins();
+        }
+
+        private void collectCuts(Cable cable) {
+            cuts = 0;
+            for (int i = 0; i < cable.faults.size(); i++) {
+                Fault fault = cable.faults.get(i);
+                if ((present >> i & 1) != 0 && !fault.isShort() && cuts < MOST_FAULTS) {
+                    cutWires[cuts] = fault.wire;
+                    cutPlaces[cuts] = fault.place;
+                    cuts++;
+                }
+            }
+        }
+
+        private void uniteShortedPieces(Cable cable) {
             pieces.separate();
             for (int i = 0; i < cable.faults.size(); i++) {
                 Fault fault = cable.faults.get(i);
                 if ((present >> i & 1) != 0 && fault.isShort()) {
-                    pieces.unite(cable.pieceAt(fault.wire, fault.place, present),
-                            cable.pieceAt(fault.other, fault.place, present));
+                    pieces.unite(pieceAt(fault.wire, fault.place), pieceAt(fault.other, fault.place));
                 }
             }
-            for (int pin = 0; pin < PINS; pin++) {
-                groupOfContact[pin] = pieces.groupOf(cable.pieceAt(cable.wireAt(NEAR, pin), 0, present));
-                groupOfContact[PINS + pin] =
-                        pieces.groupOf(cable.pieceAt(cable.wireAt(FAR, pin), cable.length, present));
+        }
+
+        /**
+         * The piece of a wire at a place, or on the near side of it where it is cut. All pieces of all wires are
+         * counted, from the near end of wire 0 to the far end of wire 7.
+         */
+        private int pieceAt(int wire, int place) {
+            int piece = wire;
+            for (int i = 0; i < cuts && i < MOST_FAULTS; i++) {
+                if (cutWires[i] < wire || cutWires[i] == wire && cutPlaces[i] < place) {
+                    piece++;
+                }
             }
-            collectMembers();
+            return piece;
         }
 
         private void collectMembers() {
             for (int i = 0; i < CONTACTS; i++) {
-                int together = 0;
-                for (int j = 0; j < CONTACTS; j++) {
-                    if (groupOfContact[i] == groupOfContact[j]) {
-                        together |= 1 << j;
+                members[i] = 1 << i;
+                for (int j = 0; j < i; j++) {
+                    if (netOf[i] == netOf[j]) {
+                        members[i] |= 1 << j;
+                        members[j] |= 1 << i;
                     }
                 }
-                members[i] = together;
+            }
+        }
+
+        private void collectWrongPins() {
+            wrongPins = 0;
+            for (int pin = 0; pin < PINS; pin++) {
+                if (statusOf(pin) != GOOD) {
+                    wrongPins |= 1 << pin;
+                }
             }
         }
 
@@ -704,16 +730,6 @@ public final class CableTester {
                 return OPEN;
             }
             return far == 1 << pin ? GOOD : CROSSED;
-        }
-
-        int wrongPins() {
-            int wrong = 0;
-            for (int pin = 0; pin < PINS; pin++) {
-                if (statusOf(pin) != GOOD) {
-                    wrong |= 1 << pin;
-                }
-            }
-            return wrong;
         }
 
         /** Each net is counted at its first contact. */
