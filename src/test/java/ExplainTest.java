@@ -13,7 +13,6 @@ public final class ExplainTest {
         fewestCutsFirst();
         freePins();
         smallestPermutation();
-        refuses();
         Check.finish();
     }
 
@@ -188,14 +187,6 @@ public final class ExplainTest {
         // far pins on the wires 2 1 3 0; 2 goes to 0, and 0 and 3 are free for 2 and 3
         dueNumbers(x, 2, 1, 1, 0);
         duePermutation(x, 2, 1, 0, 3, 4, 5, 6, 7);
-    }
-
-    private static void refuses() {
-        CableTester x = new CableTester();
-        Check.dueThrow(x, Check.ARGUMENT, "explain(5)", () -> x.explain(5));
-        Check.dueThrow(x, Check.ARGUMENT, "explain(-1)", () -> x.explain(-1));
-        Check.dueThrow(x, Check.INDEX, "explained(8)", () -> x.explained(8));
-        Check.dueThrow(x, Check.INDEX, "explained(-1)", () -> x.explained(-1));
     }
 
     private static void dueNumbers(CableTester x, int cuts, int shorts, int exchanges, int splits) {

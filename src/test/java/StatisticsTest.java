@@ -8,10 +8,8 @@ public final class StatisticsTest {
         someRecords();
         mostRecords();
         leastPeriod();
-        recordsRefuse();
         suspect();
         nextChange();
-        nextChangeFarAhead();
         wrongShare();
         Check.finish();
     }
@@ -98,15 +96,6 @@ public final class StatisticsTest {
         Check.due("twice 12", x.records(6, 4), 12);
     }
 
-    private static void recordsRefuse() {
-        CableTester x = new CableTester();
-        Check.dueThrow(x, Check.INDEX, "records(8, 0)", () -> x.records(8, 0));
-        Check.dueThrow(x, Check.INDEX, "records(-1, 0)", () -> x.records(-1, 0));
-        Check.dueThrow(x, Check.INDEX, "records(8, 5)", () -> x.records(8, 5));
-        Check.dueThrow(x, Check.ARGUMENT, "records(0, 5)", () -> x.records(0, 5));
-        Check.dueThrow(x, Check.ARGUMENT, "records(0, -1)", () -> x.records(0, -1));
-    }
-
     private static void suspect() {
         CableTester x = new CableTester();
         Check.due("suspect of none", x.suspect(), CableTester.NONE);
@@ -157,25 +146,6 @@ public final class StatisticsTest {
         x.cut(1, 5, 3, 1);
         x.pass(2);
         Check.due("another pin", x.nextChange(), 1);
-    }
-
-    private static void nextChangeFarAhead() {
-        CableTester x = new CableTester();
-        // both shorts reach a piece without pins, and are present together at 0 and 992 only
-        x.cut(5, 10, 1, 1);
-        x.cut(5, 90, 1, 1);
-        x.connect(5, 6, 50, 31, 1);
-        x.connect(5, 7, 60, 32, 1);
-        Check.due("it goes", x.nextChange(), 1);
-        for (int i = 0; i < 8; i++) {
-            x.pass(100);
-        }
-        x.pass(91);
-        Check.due("in 101 ticks", x.nextChange(), CableTester.NONE);
-        x.pass(1);
-        Check.due("in 100 ticks", x.nextChange(), 100);
-        x.pass(99);
-        Check.due("in 1 tick", x.nextChange(), 1);
     }
 
     private static void wrongShare() {
