@@ -722,8 +722,8 @@ public final class CableTester {
         }
 
         int statusOf(int pin) {
-            int far = joinedPins(NEAR, pin, FAR);
-            if (joinedPins(NEAR, pin, NEAR) != 0 || Integer.bitCount(far) > 1) {
+            int far = farPinsWith(NEAR, pin);
+            if (Integer.bitCount(nearPinsWith(NEAR, pin)) > 1 || Integer.bitCount(far) > 1) {
                 return SHORTED;
             }
             if (far == 0) {

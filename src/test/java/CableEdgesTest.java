@@ -228,9 +228,9 @@ public final class CableEdgesTest {
         Check.due("all least", x.cut(0, 1, 1, 1), 0);
         Check.due("all most", x.cut(7, 99, 32, 32), 1);
         Check.due("the period alone most", x.cut(7, 99, 32, 1), 2);
-        dueFault(x, 0, 0, 0, -1, 1, 1, 1);
-        dueFault(x, 1, 0, 7, -1, 99, 32, 32);
-        dueFault(x, 2, 0, 7, -1, 99, 32, 1);
+        Answers.dueFault(x, 0, 0, 0, -1, 1, 1, 1);
+        Answers.dueFault(x, 1, 0, 7, -1, 99, 32, 32);
+        Answers.dueFault(x, 2, 0, 7, -1, 99, 32, 1);
         Check.sentence("cut throws IndexOutOfBoundsException if the wire does not exist");
         for (int wire : NO_PINS) {
             cutRefuses(CableTester::new, Check.INDEX, wire, 5, 1, 1);
@@ -278,9 +278,9 @@ public final class CableEdgesTest {
         Check.due("all least", x.connect(0, 1, 1, 1, 1), 0);
         Check.due("all most", x.connect(7, 6, 99, 32, 32), 1);
         Check.due("the period alone most", x.connect(0, 7, 99, 32, 1), 2);
-        dueFault(x, 0, 1, 0, 1, 1, 1, 1);
-        dueFault(x, 1, 1, 7, 6, 99, 32, 32);
-        dueFault(x, 2, 1, 0, 7, 99, 32, 1);
+        Answers.dueFault(x, 0, 1, 0, 1, 1, 1, 1);
+        Answers.dueFault(x, 1, 1, 7, 6, 99, 32, 32);
+        Answers.dueFault(x, 2, 1, 0, 7, 99, 32, 1);
         Check.sentence("connect throws IndexOutOfBoundsException if one of the wires does not exist");
         for (int wire : NO_PINS) {
             connectRefuses(CableTester::new, Check.INDEX, wire, 1, 5, 1, 1);
@@ -318,12 +318,6 @@ public final class CableEdgesTest {
         }
         Check.dueRefusal(maker, kind, call.append(')').toString(),
             t -> t.connect(arguments[0], arguments[1], arguments[2], arguments[3], arguments[4]));
-    }
-
-    private static void dueFault(CableTester x, int fault, int... due) {
-        for (int what = 0; what <= 5; what++) {
-            Check.due("fault(" + fault + ", " + what + ")", x.fault(fault, what), due[what]);
-        }
     }
 
     private static void repair() {
@@ -405,8 +399,9 @@ public final class CableEdgesTest {
         Check.sentence("pass throws IllegalStateException if the tick would be greater than 100000");
         for (int missing : new int[] {0, 1, 50, 99}) {
             int tooMany = missing + 1;
-            Check.dueRefusal(() -> States.beforeLastTick(missing), Check.STATE, "pass(" + tooMany + ")", t -> t.pass(tooMany));
-            Check.dueRefusal(() -> States.beforeLastTick(missing), Check.STATE, "pass(100)", t -> t.pass(100));
+            Check.Maker late = () -> States.beforeLastTick(missing);
+            Check.dueRefusal(late, Check.STATE, "pass(" + tooMany + ")", t -> t.pass(tooMany));
+            Check.dueRefusal(late, Check.STATE, "pass(100)", t -> t.pass(100));
         }
         for (int missing : new int[] {1, 50, 100}) {
             Check.due("pass(" + missing + ")", States.beforeLastTick(missing).pass(missing), 100000);

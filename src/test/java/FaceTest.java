@@ -89,7 +89,7 @@ public final class FaceTest {
     private static void checkFields(Class<?> face) {
         for (Field field : face.getDeclaredFields()) {
             boolean seen = !Modifier.isPrivate(field.getModifiers());
-            Check.due("field " + field.getName() + " can be seen", seen ? 1 : 0, field.getName().equals("NONE") ? 1 : 0);
+            Check.due(field.getName() + " can be seen", seen ? 1 : 0, field.getName().equals("NONE") ? 1 : 0);
         }
     }
 

@@ -29,17 +29,17 @@ public final class MeasureEdgesTest {
     private static void pieces() {
         Check.sentence("At a tick, the cuts that are present divide each wire into pieces.");
         CableTester x = new CableTester();
-        dueJoined(x, 3, 0, 1 << 3, 0);
+        Answers.dueJoined(x, 3, 0, 1 << 3, 0);
         x.cut(3, 99, 2, 1);
-        dueJoined(x, 3, 0, 0, 0);
+        Answers.dueJoined(x, 3, 0, 0, 0);
         x.pass(1);
-        dueJoined(x, 3, 0, 1 << 3, 0);
+        Answers.dueJoined(x, 3, 0, 1 << 3, 0);
         for (int i = 1; i < 10; i++) {
             x.cut(3, 10 * i, 1, 1);
         }
-        dueJoined(x, 3, 0, 0, 0);
-        dueJoined(x, 2, 0, 1 << 2, 0);
-        dueJoined(x, 4, 0, 1 << 4, 0);
+        Answers.dueJoined(x, 3, 0, 0, 0);
+        Answers.dueJoined(x, 2, 0, 1 << 2, 0);
+        Answers.dueJoined(x, 4, 0, 1 << 4, 0);
         // ten cuts make eleven pieces; each of the eight wires may have the most
         for (int wire = 0; wire < 8; wire++) {
             CableTester y = new CableTester();
@@ -67,22 +67,22 @@ public final class MeasureEdgesTest {
         both.cut(0, 50, 1, 1);
         both.cut(7, 50, 1, 1);
         both.connect(0, 7, 50, 1, 1);
-        dueJoined(both, 0, 1 << 7, 0, 0);
-        dueJoined(both, 7, 1, 0, 0);
+        Answers.dueJoined(both, 0, 1 << 7, 0, 0);
+        Answers.dueJoined(both, 7, 1, 0, 0);
         CableTester twice = new CableTester();
         twice.cut(0, 50, 1, 1);
         twice.cut(0, 50, 1, 1);
         twice.connect(7, 0, 50, 1, 1);
-        dueJoined(twice, 0, 1 << 7, 1 << 7, 0);
+        Answers.dueJoined(twice, 0, 1 << 7, 1 << 7, 0);
         twice.cut(0, 49, 1, 1);
-        dueJoined(twice, 0, 0, 0, 0);
-        dueJoined(twice, 7, 0, 1 << 7, 0);
+        Answers.dueJoined(twice, 0, 0, 0, 0);
+        Answers.dueJoined(twice, 7, 0, 1 << 7, 0);
         // a cut that is not present now does not matter
         CableTester absent = new CableTester();
         absent.cut(0, 50, 2, 1);
         absent.connect(0, 7, 50, 1, 1);
         absent.pass(1);
-        dueJoined(absent, 0, 1 << 7, 1 | 1 << 7, 1 << 7);
+        Answers.dueJoined(absent, 0, 1 << 7, 1 | 1 << 7, 1 << 7);
     }
 
     /** The wire 4 is cut at 50, and shorted to the wire 2; the order of all that does not matter. */
@@ -109,14 +109,14 @@ public final class MeasureEdgesTest {
         for (int wire = 0; wire < 7; wire++) {
             x.connect(wire, wire + 1, 90 - 10 * wire, 1, 1);
             int chain = (1 << wire + 2) - 1;
-            dueJoined(x, 0, chain & ~1, chain, chain & ~1);
-            dueJoined(x, wire + 1, chain & ~(1 << wire + 1), chain, chain & ~(1 << wire + 1));
+            Answers.dueJoined(x, 0, chain & ~1, chain, chain & ~1);
+            Answers.dueJoined(x, wire + 1, chain & ~(1 << wire + 1), chain, chain & ~(1 << wire + 1));
         }
         // a ring of shorts, and shorts between wires that are joined already
         x.connect(7, 0, 5, 1, 1);
         x.connect(7, 0, 5, 1, 1);
         x.connect(0, 7, 6, 1, 1);
-        dueJoined(x, 4, 255 & ~(1 << 4), 255, 255 & ~(1 << 4));
+        Answers.dueJoined(x, 4, 255 & ~(1 << 4), 255, 255 & ~(1 << 4));
         Check.due("one net", x.count(6), 1);
         // forth and back over pieces that have no pins
         CableTester y = new CableTester();
@@ -127,23 +127,23 @@ public final class MeasureEdgesTest {
         y.connect(0, 1, 30, 1, 1);
         y.connect(2, 1, 40, 1, 1);
         y.connect(2, 3, 50, 1, 1);
-        dueJoined(y, 0, 1 << 3, 1 | 1 << 3, 1 << 3);
-        dueJoined(y, 1, 0, 0, 0);
-        dueJoined(y, 2, 0, 0, 0);
+        Answers.dueJoined(y, 0, 1 << 3, 1 | 1 << 3, 1 << 3);
+        Answers.dueJoined(y, 1, 0, 0, 0);
+        Answers.dueJoined(y, 2, 0, 0, 0);
     }
 
     private static void joined() {
         Check.sentence("Returns these pins, as a bit mask; without the pin itself.");
         CableTester x = new CableTester();
         for (int pin = 0; pin < 8; pin++) {
-            dueJoined(x, pin, 0, 1 << pin, 0);
+            Answers.dueJoined(x, pin, 0, 1 << pin, 0);
             Check.due("joined(1, " + pin + ", 0)", x.joined(1, pin, 0), 1 << pin);
         }
         for (int wire = 1; wire < 8; wire++) {
             x.connect(0, wire, 50, 1, 1);
         }
         for (int pin = 0; pin < 8; pin++) {
-            dueJoined(x, pin, 255 & ~(1 << pin), 255, 255 & ~(1 << pin));
+            Answers.dueJoined(x, pin, 255 & ~(1 << pin), 255, 255 & ~(1 << pin));
             Check.due("joined(1, " + pin + ", 0)", x.joined(1, pin, 0), 255);
         }
         Check.sentence("joined throws IllegalArgumentException if end or to is not 0 or 1");
@@ -238,45 +238,45 @@ public final class MeasureEdgesTest {
             + " short of this wire that is present");
         CableTester x = new CableTester();
         x.cut(3, 99, 1, 1);
-        dueEvent(x, 3, 0, 99);
+        Answers.dueKindAndPlace(x, 3, 0, 99);
         x.connect(3, 4, 98, 1, 1);
-        dueEvent(x, 3, 1, 98);
+        Answers.dueKindAndPlace(x, 3, 1, 98);
         x.cut(3, 97, 1, 1);
-        dueEvent(x, 3, 0, 97);
+        Answers.dueKindAndPlace(x, 3, 0, 97);
         x.connect(2, 3, 2, 2, 1);
-        dueEvent(x, 3, 1, 2);
+        Answers.dueKindAndPlace(x, 3, 1, 2);
         x.cut(3, 1, 3, 1);
-        dueEvent(x, 3, 0, 1);
-        dueEvent(x, 2, 1, 2);
-        dueEvent(x, 4, 1, 98);
-        dueEvent(x, 5, 0, 100);
+        Answers.dueKindAndPlace(x, 3, 0, 1);
+        Answers.dueKindAndPlace(x, 2, 1, 2);
+        Answers.dueKindAndPlace(x, 4, 1, 98);
+        Answers.dueKindAndPlace(x, 5, 0, 100);
         x.pass(1);
-        dueEvent(x, 3, 0, 97);
+        Answers.dueKindAndPlace(x, 3, 0, 97);
         x.pass(1);
-        dueEvent(x, 3, 1, 2);
+        Answers.dueKindAndPlace(x, 3, 1, 2);
         x.exchange(0, 3, 5);
         x.exchange(1, 3, 6);
-        dueEvent(x, 5, 1, 2);
-        dueEvent(x, 3, 0, 100);
+        Answers.dueKindAndPlace(x, 5, 1, 2);
+        Answers.dueKindAndPlace(x, 3, 0, 100);
         Check.sentence("of several at the same place, a short comes first.");
         for (int order = 0; order < 4; order++) {
             CableTester same = shortAtCut(order, 50);
-            dueEvent(same, 4, 1, 50);
-            dueEvent(same, 2, 1, 50);
+            Answers.dueKindAndPlace(same, 4, 1, 50);
+            Answers.dueKindAndPlace(same, 2, 1, 50);
             CableTester before = shortAtCut(order, 49);
-            dueEvent(before, 4, 1, 49);
+            Answers.dueKindAndPlace(before, 4, 1, 49);
             CableTester behind = shortAtCut(order, 51);
-            dueEvent(behind, 4, 0, 50);
+            Answers.dueKindAndPlace(behind, 4, 0, 50);
         }
         CableTester many = new CableTester();
         many.cut(0, 50, 1, 1);
         many.connect(0, 1, 50, 2, 1);
         many.connect(2, 0, 50, 1, 1);
         many.cut(0, 50, 1, 1);
-        dueEvent(many, 0, 1, 50);
+        Answers.dueKindAndPlace(many, 0, 1, 50);
         many.repair(2);
         many.pass(1);
-        dueEvent(many, 0, 0, 50);
+        Answers.dueKindAndPlace(many, 0, 0, 50);
     }
 
     private static void farEnd() {
@@ -286,13 +286,13 @@ public final class MeasureEdgesTest {
         for (int length : new int[] {2, 100, 999}) {
             x.begin(length, 66);
             for (int pin = 0; pin < 8; pin++) {
-                dueEvent(x, pin, 0, length);
+                Answers.dueKindAndPlace(x, pin, 0, length);
             }
             x.plug(1);
             x.cut(6, length - 1, 2, 1);
             x.connect(0, 5, length - 1, 2, 1);
-            dueEvent(x, 6, 0, length - 1);
-            dueEvent(x, 5, 1, length - 1);
+            Answers.dueKindAndPlace(x, 6, 0, length - 1);
+            Answers.dueKindAndPlace(x, 5, 1, length - 1);
             for (int what = 0; what <= 3; what++) {
                 Check.due("echo(1, " + what + ")", x.echo(1, what), NONE);
             }
@@ -301,7 +301,7 @@ public final class MeasureEdgesTest {
                 Check.due("echo(6, " + what + ")", x.echo(6, what), NONE);
             }
             x.plug(0);
-            dueEvent(x, 6, 0, length);
+            Answers.dueKindAndPlace(x, 6, 0, length);
         }
     }
 
@@ -443,6 +443,19 @@ public final class MeasureEdgesTest {
     }
 
     private static void splitPairs() {
+        Check.sentence("The pins 2 p and 2 p + 1 of an end make the pair p, for p from 0 to 3.");
+        for (int p = 0; p < 4; p++) {
+            CableTester pair = new CableTester();
+            attach(pair, 2 * p, 4);
+            attach(pair, 2 * p + 1, 5);
+            Check.due("the wires 4 and 5 make a pair at " + p, pair.count(8), 0);
+            int next = (p + 1) % 4;
+            attach(pair, 2 * p + 1, 4);
+            attach(pair, 2 * next, 5);
+            int both = 1 << p | 1 << next;
+            Check.due("the wires 4 and 5 are in two pairs, " + p, pair.count(8) & both, both);
+            Check.dueTrue("they talk, " + p, pair.crosstalk(p, next) > 0);
+        }
         Check.sentence("A pair is split if its two near pins are attached to wires that are not twisted together.");
         CableTester x = new CableTester();
         Check.due("none", x.count(8), 0);
@@ -457,6 +470,16 @@ public final class MeasureEdgesTest {
         Check.due("the first and the last", x.count(8), 0b1001);
         x.exchange(0, 3, 4);
         Check.due("all", x.count(8), 0b1111);
+    }
+
+    /** The wire is attached to the near pin, and this pin's wire to the pin that had it. */
+    private static void attach(CableTester x, int pin, int wire) {
+        for (int other = 0; other < 8; other++) {
+            if (other != pin && x.wire(0, other) == wire) {
+                x.exchange(0, pin, other);
+                return;
+            }
+        }
     }
 
     private static void identify() {
@@ -518,16 +541,5 @@ public final class MeasureEdgesTest {
         Check.due("good pins of a split pair", x.status(2 * one) + x.status(2 * one + 1), 0);
         Check.due("split pairs", x.count(8), 1 << one | 1 << two);
         Check.due("identify", x.identify(), NONE);
-    }
-
-    private static void dueJoined(CableTester x, int pin, int nearNear, int nearFar, int farFar) {
-        Check.due("joined(0, " + pin + ", 0)", x.joined(0, pin, 0), nearNear);
-        Check.due("joined(0, " + pin + ", 1)", x.joined(0, pin, 1), nearFar);
-        Check.due("joined(1, " + pin + ", 1)", x.joined(1, pin, 1), farFar);
-    }
-
-    private static void dueEvent(CableTester x, int pin, int kind, int place) {
-        Check.due("echo(" + pin + ", 0)", x.echo(pin, 0), kind);
-        Check.due("echo(" + pin + ", 3)", x.echo(pin, 3), place);
     }
 }

@@ -19,14 +19,14 @@ public final class MeasureTest {
     private static void joinedWithoutFaults() {
         CableTester x = new CableTester();
         for (int pin = 0; pin < 8; pin++) {
-            dueJoined(x, pin, 0, 1 << pin, 0);
+            Answers.dueJoined(x, pin, 0, 1 << pin, 0);
             Check.due("joined(1, " + pin + ", 0)", x.joined(1, pin, 0), 1 << pin);
         }
         x.exchange(0, 0, 1);
         x.exchange(1, 1, 7);
-        dueJoined(x, 0, 0, 1 << 7, 0);
-        dueJoined(x, 1, 0, 1, 0);
-        dueJoined(x, 7, 0, 1 << 1, 0);
+        Answers.dueJoined(x, 0, 0, 1 << 7, 0);
+        Answers.dueJoined(x, 1, 0, 1, 0);
+        Answers.dueJoined(x, 7, 0, 1 << 1, 0);
         Check.due("joined(1, 1, 0)", x.joined(1, 1, 0), 1 << 7);
         Check.due("joined(1, 7, 0)", x.joined(1, 7, 0), 1);
     }
@@ -34,60 +34,60 @@ public final class MeasureTest {
     private static void joinedByShorts() {
         CableTester x = new CableTester();
         x.connect(1, 2, 30, 1, 1);
-        dueJoined(x, 1, 0b100, 0b110, 0b100);
-        dueJoined(x, 2, 0b010, 0b110, 0b010);
+        Answers.dueJoined(x, 1, 0b100, 0b110, 0b100);
+        Answers.dueJoined(x, 2, 0b010, 0b110, 0b010);
         Check.due("joined(1, 1, 0)", x.joined(1, 1, 0), 0b110);
         x.connect(5, 2, 10, 2, 1);
-        dueJoined(x, 1, 0b100100, 0b100110, 0b100100);
-        dueJoined(x, 5, 0b000110, 0b100110, 0b000110);
+        Answers.dueJoined(x, 1, 0b100100, 0b100110, 0b100100);
+        Answers.dueJoined(x, 5, 0b000110, 0b100110, 0b000110);
         x.pass(1);
-        dueJoined(x, 1, 0b100, 0b110, 0b100);
-        dueJoined(x, 5, 0, 0b100000, 0);
+        Answers.dueJoined(x, 1, 0b100, 0b110, 0b100);
+        Answers.dueJoined(x, 5, 0, 0b100000, 0);
         // over a piece that reaches no pin
         x.begin(100, 66);
         x.cut(1, 20, 1, 1);
         x.cut(1, 40, 1, 1);
         x.connect(1, 2, 30, 1, 1);
         x.connect(3, 1, 35, 1, 1);
-        dueJoined(x, 1, 0, 0, 0);
-        dueJoined(x, 2, 0b1000, 0b1100, 0b1000);
-        dueJoined(x, 3, 0b0100, 0b1100, 0b0100);
+        Answers.dueJoined(x, 1, 0, 0, 0);
+        Answers.dueJoined(x, 2, 0b1000, 0b1100, 0b1000);
+        Answers.dueJoined(x, 3, 0b0100, 0b1100, 0b0100);
         // pieces of two wires between the same cuts
         x.begin(100, 66);
         x.cut(6, 50, 1, 1);
         x.connect(6, 7, 49, 1, 1);
         x.connect(6, 0, 51, 1, 1);
-        dueJoined(x, 6, 1 << 7, 1 << 7, 1);
-        dueJoined(x, 0, 0, 0b1000001, 1 << 6);
-        dueJoined(x, 7, 1 << 6, 1 << 7, 0);
+        Answers.dueJoined(x, 6, 1 << 7, 1 << 7, 1);
+        Answers.dueJoined(x, 0, 0, 0b1000001, 1 << 6);
+        Answers.dueJoined(x, 7, 1 << 6, 1 << 7, 0);
     }
 
     private static void joinedBesideCuts() {
         CableTester x = new CableTester();
         x.connect(1, 2, 30, 1, 1);
         x.cut(1, 30, 1, 1);
-        dueJoined(x, 1, 0b100, 0b100, 0);
-        dueJoined(x, 2, 0b010, 0b100, 0);
+        Answers.dueJoined(x, 1, 0b100, 0b100, 0);
+        Answers.dueJoined(x, 2, 0b010, 0b100, 0);
         Check.due("the far side is cut off", x.joined(1, 1, 0), 0);
         x.cut(2, 30, 1, 1);
-        dueJoined(x, 1, 0b100, 0, 0);
+        Answers.dueJoined(x, 1, 0b100, 0, 0);
         x.begin(100, 66);
         x.cut(1, 29, 1, 1);
         x.connect(1, 2, 30, 1, 1);
-        dueJoined(x, 1, 0, 0, 0b100);
-        dueJoined(x, 2, 0, 0b110, 0b010);
+        Answers.dueJoined(x, 1, 0, 0, 0b100);
+        Answers.dueJoined(x, 2, 0, 0b110, 0b010);
         x.begin(100, 66);
         x.cut(1, 31, 1, 1);
         x.connect(1, 2, 30, 1, 1);
-        dueJoined(x, 1, 0b100, 0b100, 0);
-        dueJoined(x, 2, 0b010, 0b100, 0);
+        Answers.dueJoined(x, 1, 0b100, 0b100, 0);
+        Answers.dueJoined(x, 2, 0b010, 0b100, 0);
         // two cuts at one place
         x.begin(2, 66);
         x.cut(4, 1, 1, 1);
         x.cut(4, 1, 2, 1);
         x.connect(4, 3, 1, 1, 1);
-        dueJoined(x, 4, 0b1000, 0b1000, 0);
-        dueJoined(x, 3, 0b10000, 0b1000, 0);
+        Answers.dueJoined(x, 4, 0b1000, 0b1000, 0);
+        Answers.dueJoined(x, 3, 0b10000, 0b1000, 0);
     }
 
     private static void status() {
@@ -139,38 +139,38 @@ public final class MeasureTest {
         CableTester x = new CableTester();
         x.cut(3, 60, 1, 1);
         x.connect(2, 3, 60, 1, 1);
-        dueKindAndPlace(x, 3, 1, 60);
-        dueKindAndPlace(x, 2, 1, 60);
-        dueKindAndPlace(x, 1, 0, 100);
+        Answers.dueKindAndPlace(x, 3, 1, 60);
+        Answers.dueKindAndPlace(x, 2, 1, 60);
+        Answers.dueKindAndPlace(x, 1, 0, 100);
         x.cut(3, 59, 3, 1);
-        dueKindAndPlace(x, 3, 0, 59);
+        Answers.dueKindAndPlace(x, 3, 0, 59);
         x.connect(3, 0, 58, 2, 1);
-        dueKindAndPlace(x, 3, 1, 58);
-        dueKindAndPlace(x, 0, 1, 58);
+        Answers.dueKindAndPlace(x, 3, 1, 58);
+        Answers.dueKindAndPlace(x, 0, 1, 58);
         x.pass(1);
-        dueKindAndPlace(x, 3, 1, 60);
-        dueKindAndPlace(x, 0, 0, 100);
+        Answers.dueKindAndPlace(x, 3, 1, 60);
+        Answers.dueKindAndPlace(x, 0, 0, 100);
         x.exchange(0, 3, 7);
-        dueKindAndPlace(x, 7, 1, 60);
-        dueKindAndPlace(x, 3, 0, 100);
+        Answers.dueKindAndPlace(x, 7, 1, 60);
+        Answers.dueKindAndPlace(x, 3, 0, 100);
         x.exchange(1, 3, 6);
-        dueKindAndPlace(x, 7, 1, 60);
+        Answers.dueKindAndPlace(x, 7, 1, 60);
         // the short comes first also if it was added first
         x.begin(100, 66);
         x.connect(0, 1, 50, 1, 1);
         x.cut(0, 50, 1, 1);
-        dueKindAndPlace(x, 0, 1, 50);
+        Answers.dueKindAndPlace(x, 0, 1, 50);
         // a cut or a short that was added later, but is farther away
         x.connect(0, 2, 51, 1, 1);
-        dueKindAndPlace(x, 0, 1, 50);
+        Answers.dueKindAndPlace(x, 0, 1, 50);
         x.cut(1, 70, 1, 1);
-        dueKindAndPlace(x, 1, 1, 50);
+        Answers.dueKindAndPlace(x, 1, 1, 50);
         x.cut(6, 40, 1, 1);
         x.connect(6, 5, 41, 1, 1);
         x.cut(6, 60, 1, 1);
-        dueKindAndPlace(x, 6, 0, 40);
+        Answers.dueKindAndPlace(x, 6, 0, 40);
         x.connect(7, 5, 30, 1, 1);
-        dueKindAndPlace(x, 5, 1, 30);
+        Answers.dueKindAndPlace(x, 5, 1, 30);
     }
 
     private static void echoRounding() {
@@ -264,21 +264,10 @@ public final class MeasureTest {
         Check.due("its second pin is open", x.identify(), CableTester.NONE);
     }
 
-    private static void dueJoined(CableTester x, int pin, int nearNear, int nearFar, int farFar) {
-        Check.due("joined(0, " + pin + ", 0)", x.joined(0, pin, 0), nearNear);
-        Check.due("joined(0, " + pin + ", 1)", x.joined(0, pin, 1), nearFar);
-        Check.due("joined(1, " + pin + ", 1)", x.joined(1, pin, 1), farFar);
-    }
-
     private static void dueEcho(CableTester x, int pin, int kind, int time, int estimate, int place) {
         Check.due("echo(" + pin + ", 0)", x.echo(pin, 0), kind);
         Check.due("echo(" + pin + ", 1)", x.echo(pin, 1), time);
         Check.due("echo(" + pin + ", 2)", x.echo(pin, 2), estimate);
-        Check.due("echo(" + pin + ", 3)", x.echo(pin, 3), place);
-    }
-
-    private static void dueKindAndPlace(CableTester x, int pin, int kind, int place) {
-        Check.due("echo(" + pin + ", 0)", x.echo(pin, 0), kind);
         Check.due("echo(" + pin + ", 3)", x.echo(pin, 3), place);
     }
 

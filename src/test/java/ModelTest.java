@@ -4,6 +4,8 @@ import java.util.Random;
 public final class ModelTest {
     private static final int RUNS = 400;
     private static final int CALLS = 120;
+    /** Each tenth run is as long as an object may be used; a step makes one call or more. */
+    private static final int MOST_CALLS = 512;
 
     private final Random random;
     private final CableTester tester = new CableTester();
@@ -28,7 +30,8 @@ public final class ModelTest {
     }
 
     private void run(int run) {
-        for (int i = 0; i < CALLS; i++) {
+        int calls = run % 10 == 0 ? MOST_CALLS : CALLS;
+        for (int i = 0; i < calls; i++) {
             step();
             if (random.nextInt(12) == 0) {
                 both("digest()", tester::digest, model::digest);

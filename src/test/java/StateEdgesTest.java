@@ -22,17 +22,17 @@ public final class StateEdgesTest {
         Check.sentence("what: 0: the length; 1: the velocity; 2: the number of the remote unit; 3: the tick; 4: faults;"
             + " 5: faults that are present; 6: nets; 7: near pins that are wrong; 8: split pairs, as a bit mask");
         CableTester x = new CableTester();
-        dueCounts(x, 100, 66, 0, 0, 0, 0, 8, 0, 0);
+        Answers.dueCounts(x, 100, 66, 0, 0, 0, 0, 8, 0, 0);
         x.begin(2, 50);
-        dueCounts(x, 2, 50, 0, 0, 0, 0, 8, 0, 0);
+        Answers.dueCounts(x, 2, 50, 0, 0, 0, 0, 8, 0, 0);
         for (int wire = 0; wire < 8; wire++) {
             x.cut(wire, 1, 2, 1);
         }
         x.cut(0, 1, 1, 1);
         x.connect(1, 2, 1, 2, 1);
-        dueCounts(x, 2, 50, 0, 0, 10, 10, 15, 8, 0);
+        Answers.dueCounts(x, 2, 50, 0, 0, 10, 10, 15, 8, 0);
         x.pass(1);
-        dueCounts(x, 2, 50, 0, 1, 10, 1, 9, 1, 0);
+        Answers.dueCounts(x, 2, 50, 0, 1, 10, 1, 9, 1, 0);
         x.begin(999, 99);
         x.plug(99);
         x.exchange(0, 1, 2);
@@ -41,7 +41,7 @@ public final class StateEdgesTest {
             x.connect(0, wire, 998, 1, 1);
         }
         x.pass(100);
-        dueCounts(x, 999, 99, 99, 100, 7, 7, 1, 8, 15);
+        Answers.dueCounts(x, 999, 99, 99, 100, 7, 7, 1, 8, 15);
         Check.due("ten ticks before the last one", States.beforeLastTick(10).count(3), 99990);
         Check.due("the last tick", States.beforeLastTick(0).count(3), 100000);
     }
@@ -66,23 +66,23 @@ public final class StateEdgesTest {
         for (int i = 4; i < 10; i++) {
             x.connect(i % 8, (i + 1) % 8, 100 + i, 20 + i, i);
         }
-        dueFault(x, 0, 0, 0, NONE, 1, 1, 1, 1);
-        dueFault(x, 1, 0, 7, NONE, 998, 32, 32, 1);
-        dueFault(x, 2, 1, 0, 7, 1, 32, 1, 1);
-        dueFault(x, 3, 1, 7, 0, 998, 32, 31, 1);
+        Answers.dueFault(x, 0, 0, 0, NONE, 1, 1, 1, 1);
+        Answers.dueFault(x, 1, 0, 7, NONE, 998, 32, 32, 1);
+        Answers.dueFault(x, 2, 1, 0, 7, 1, 32, 1, 1);
+        Answers.dueFault(x, 3, 1, 7, 0, 998, 32, 31, 1);
         for (int i = 4; i < 10; i++) {
-            dueFault(x, i, 1, i % 8, (i + 1) % 8, 100 + i, 20 + i, i, 1);
+            Answers.dueFault(x, i, 1, i % 8, (i + 1) % 8, 100 + i, 20 + i, i, 1);
         }
         x.pass(1);
-        dueFault(x, 2, 1, 0, 7, 1, 32, 1, 0);
-        dueFault(x, 3, 1, 7, 0, 998, 32, 31, 1);
+        Answers.dueFault(x, 2, 1, 0, 7, 1, 32, 1, 0);
+        Answers.dueFault(x, 3, 1, 7, 0, 998, 32, 31, 1);
         x.pass(30);
-        dueFault(x, 0, 0, 0, NONE, 1, 1, 1, 1);
-        dueFault(x, 1, 0, 7, NONE, 998, 32, 32, 1);
-        dueFault(x, 3, 1, 7, 0, 998, 32, 31, 0);
+        Answers.dueFault(x, 0, 0, 0, NONE, 1, 1, 1, 1);
+        Answers.dueFault(x, 1, 0, 7, NONE, 998, 32, 32, 1);
+        Answers.dueFault(x, 3, 1, 7, 0, 998, 32, 31, 0);
         x.pass(1);
-        dueFault(x, 2, 1, 0, 7, 1, 32, 1, 1);
-        dueFault(x, 3, 1, 7, 0, 998, 32, 31, 1);
+        Answers.dueFault(x, 2, 1, 0, 7, 1, 32, 1, 1);
+        Answers.dueFault(x, 3, 1, 7, 0, 998, 32, 31, 1);
     }
 
     private static void faultRefuses() {
@@ -188,18 +188,6 @@ public final class StateEdgesTest {
             asked.wrongShare();
             asked.digest();
             Check.dueAlike("after all questions", asked, maker.make());
-        }
-    }
-
-    private static void dueCounts(CableTester x, int... due) {
-        for (int what = 0; what <= 8; what++) {
-            Check.due("count(" + what + ")", x.count(what), due[what]);
-        }
-    }
-
-    private static void dueFault(CableTester x, int fault, int... due) {
-        for (int what = 0; what <= 6; what++) {
-            Check.due("fault(" + fault + ", " + what + ")", x.fault(fault, what), due[what]);
         }
     }
 }

@@ -24,40 +24,40 @@ public final class StateTest {
         x.cut(1, 10, 4, 1);
         x.connect(4, 5, 10, 1, 1);
         x.exchange(0, 2, 4);
-        dueCounts(x, 250, 71, 33, 0, 3, 3, 9, 5, 0b110);
+        Answers.dueCounts(x, 250, 71, 33, 0, 3, 3, 9, 5, 0b110);
         x.pass(2);
-        dueCounts(x, 250, 71, 33, 2, 3, 1, 7, 3, 0b110);
+        Answers.dueCounts(x, 250, 71, 33, 2, 3, 1, 7, 3, 0b110);
         x.repair(2);
-        dueCounts(x, 250, 71, 33, 2, 2, 0, 8, 2, 0b110);
+        Answers.dueCounts(x, 250, 71, 33, 2, 2, 0, 8, 2, 0b110);
         x.exchange(0, 0, 7);
-        dueCounts(x, 250, 71, 33, 2, 2, 0, 8, 4, 0b1111);
+        Answers.dueCounts(x, 250, 71, 33, 2, 2, 0, 8, 4, 0b1111);
         // eight cuts leave every pin alone
         x.begin(100, 66);
         for (int k = 0; k < 8; k++) {
             x.cut(k, 50, 1, 1);
         }
-        dueCounts(x, 100, 66, 0, 0, 8, 8, 16, 8, 0);
+        Answers.dueCounts(x, 100, 66, 0, 0, 8, 8, 16, 8, 0);
         // all wires in one net
         x.begin(100, 66);
         for (int k = 1; k < 8; k++) {
             x.connect(0, k, 50, 1, 1);
         }
-        dueCounts(x, 100, 66, 0, 0, 7, 7, 1, 8, 0);
+        Answers.dueCounts(x, 100, 66, 0, 0, 7, 7, 1, 8, 0);
     }
 
     private static void fault() {
         CableTester x = new CableTester();
         x.cut(7, 98, 6, 2);
         x.connect(5, 3, 17, 4, 3);
-        dueFault(x, 0, 0, 7, -1, 98, 6, 2, 1);
-        dueFault(x, 1, 1, 5, 3, 17, 4, 3, 1);
+        Answers.dueFault(x, 0, 0, 7, -1, 98, 6, 2, 1);
+        Answers.dueFault(x, 1, 1, 5, 3, 17, 4, 3, 1);
         x.pass(2);
-        dueFault(x, 0, 0, 7, -1, 98, 6, 2, 0);
-        dueFault(x, 1, 1, 5, 3, 17, 4, 3, 1);
+        Answers.dueFault(x, 0, 0, 7, -1, 98, 6, 2, 0);
+        Answers.dueFault(x, 1, 1, 5, 3, 17, 4, 3, 1);
         x.pass(1);
-        dueFault(x, 1, 1, 5, 3, 17, 4, 3, 0);
+        Answers.dueFault(x, 1, 1, 5, 3, 17, 4, 3, 0);
         x.pass(3);
-        dueFault(x, 0, 0, 7, -1, 98, 6, 2, 1);
+        Answers.dueFault(x, 0, 0, 7, -1, 98, 6, 2, 1);
     }
 
     private static void wire() {
@@ -141,17 +141,5 @@ public final class StateTest {
             hash = 31 * hash + x.records(pin, what);
         }
         return 31 * hash + x.explained(pin);
-    }
-
-    private static void dueCounts(CableTester x, int... due) {
-        for (int what = 0; what <= 8; what++) {
-            Check.due("count(" + what + ")", x.count(what), due[what]);
-        }
-    }
-
-    private static void dueFault(CableTester x, int fault, int... due) {
-        for (int what = 0; what <= 6; what++) {
-            Check.due("fault(" + fault + ", " + what + ")", x.fault(fault, what), due[what]);
-        }
     }
 }

@@ -51,25 +51,25 @@ public final class StatisticsEdgesTest {
         for (int pin = 0; pin < 8; pin++) {
             CableTester x = States.recorded(pin, "10");
             x.pass(61);
-            dueRecords(x, pin, 63, 1, 1, 1, NONE);
+            Answers.dueRecords(x, pin, 63, 1, 1, 1, NONE);
             x.pass(1);
-            dueRecords(x, pin, 64, 1, 1, 1, NONE);
+            Answers.dueRecords(x, pin, 64, 1, 1, 1, NONE);
             x.pass(1);
-            dueRecords(x, pin, 64, 0, 0, 0, 1);
+            Answers.dueRecords(x, pin, 64, 0, 0, 0, 1);
             x.pass(100);
-            dueRecords(x, pin, 64, 0, 0, 0, 1);
+            Answers.dueRecords(x, pin, 64, 0, 0, 0, 1);
             CableTester y = States.recorded(pin, "01");
             y.pass(62);
-            dueRecords(y, pin, 64, 63, 63, 1, NONE);
+            Answers.dueRecords(y, pin, 64, 63, 63, 1, NONE);
             y.pass(1);
-            dueRecords(y, pin, 64, 64, 64, 0, 1);
+            Answers.dueRecords(y, pin, 64, 64, 64, 0, 1);
         }
         CableTester atOnce = States.recorded(3, "1".repeat(64) + "0");
         atOnce.pass(62);
-        dueRecords(atOnce, 3, 64, 1, 1, 1, NONE);
+        Answers.dueRecords(atOnce, 3, 64, 1, 1, 1, NONE);
         CableTester farther = States.recorded(3, "1".repeat(64) + "0");
         farther.pass(100);
-        dueRecords(farther, 3, 64, 0, 0, 0, 1);
+        Answers.dueRecords(farther, 3, 64, 0, 0, 0, 1);
     }
 
     private static void numberAndTimes() {
@@ -232,8 +232,8 @@ public final class StatisticsEdgesTest {
     }
 
     private static void nextChange() {
-        Check.sentence("Finds the next tick at which the near pins that are wrong are other ones than now, if nothing is"
-            + " changed.");
+        Check.sentence("Finds the next tick at which the near pins that are wrong are other ones than now, if nothing"
+            + " is changed.");
         CableTester x = new CableTester();
         x.cut(3, 50, 8, 3);
         Check.due("it goes", x.nextChange(), 3);
@@ -347,11 +347,5 @@ public final class StatisticsEdgesTest {
         Check.due("no records any more", Double.doubleToLongBits(all.wrongShare()), 0);
         Check.due("none that are wrong", Double.doubleToLongBits(States.recorded(0, "00").wrongShare()), 0);
         Check.due("none that are kept", States.recorded(0, "1" + "0".repeat(64)).wrongShare(), 0.0);
-    }
-
-    private static void dueRecords(CableTester x, int pin, int... due) {
-        for (int what = 0; what <= 4; what++) {
-            Check.due("records(" + pin + ", " + what + ")", x.records(pin, what), due[what]);
-        }
     }
 }

@@ -17,18 +17,18 @@ public final class StatisticsTest {
     private static void fewRecords() {
         CableTester x = new CableTester();
         x.cut(0, 5, 4, 2);
-        dueRecords(x, 0, 0, 0, 0, 0, -1);
+        Answers.dueRecords(x, 0, 0, 0, 0, 0, -1);
         x.pass(1);
-        dueRecords(x, 0, 1, 1, 1, 0, -1);
-        dueRecords(x, 1, 1, 0, 0, 0, -1);
+        Answers.dueRecords(x, 0, 1, 1, 1, 0, -1);
+        Answers.dueRecords(x, 1, 1, 0, 0, 0, -1);
         x.pass(1);
-        dueRecords(x, 0, 2, 1, 1, 1, -1);
-        dueRecords(x, 1, 2, 0, 0, 0, 1);
+        Answers.dueRecords(x, 0, 2, 1, 1, 1, -1);
+        Answers.dueRecords(x, 1, 2, 0, 0, 0, 1);
         x.begin(100, 66);
-        dueRecords(x, 0, 0, 0, 0, 0, -1);
+        Answers.dueRecords(x, 0, 0, 0, 0, 0, -1);
         x.cut(0, 5, 1, 1);
         x.pass(2);
-        dueRecords(x, 0, 2, 2, 2, 0, 1);
+        Answers.dueRecords(x, 0, 2, 2, 2, 0, 1);
     }
 
     private static void someRecords() {
@@ -36,17 +36,17 @@ public final class StatisticsTest {
         x.cut(2, 50, 4, 1);
         x.pass(7);
         // 0001000
-        dueRecords(x, 2, 7, 1, 1, 2, -1);
+        Answers.dueRecords(x, 2, 7, 1, 1, 2, -1);
         x.pass(3);
         // 0001000100
-        dueRecords(x, 2, 10, 2, 1, 4, 4);
+        Answers.dueRecords(x, 2, 10, 2, 1, 4, 4);
         x.repair(0);
-        dueRecords(x, 2, 10, 2, 1, 4, 4);
+        Answers.dueRecords(x, 2, 10, 2, 1, 4, 4);
         x.connect(2, 3, 50, 1, 1);
         x.pass(3);
         // 0001000100111
-        dueRecords(x, 2, 13, 5, 3, 5, -1);
-        dueRecords(x, 3, 13, 3, 3, 1, -1);
+        Answers.dueRecords(x, 2, 13, 5, 3, 5, -1);
+        Answers.dueRecords(x, 3, 13, 3, 3, 1, -1);
     }
 
     private static void mostRecords() {
@@ -54,26 +54,26 @@ public final class StatisticsTest {
         x.cut(1, 5, 32, 16);
         x.pass(100);
         // the ticks 37 to 100: 11 wrong, 16 not, 16 wrong, 16 not, 5 wrong
-        dueRecords(x, 1, 64, 32, 16, 4, 32);
-        dueRecords(x, 0, 64, 0, 0, 0, 1);
+        Answers.dueRecords(x, 1, 64, 32, 16, 4, 32);
+        Answers.dueRecords(x, 0, 64, 0, 0, 0, 1);
         x.pass(1);
-        dueRecords(x, 1, 64, 32, 16, 4, 32);
+        Answers.dueRecords(x, 1, 64, 32, 16, 4, 32);
         x.cut(1, 5, 1, 1);
         x.pass(63);
-        dueRecords(x, 1, 64, 64, 64, 0, 1);
+        Answers.dueRecords(x, 1, 64, 64, 64, 0, 1);
         x.repair(1);
         x.repair(0);
         x.pass(1);
-        dueRecords(x, 1, 64, 63, 63, 1, -1);
+        Answers.dueRecords(x, 1, 64, 63, 63, 1, -1);
         x.pass(62);
-        dueRecords(x, 1, 64, 1, 1, 1, -1);
+        Answers.dueRecords(x, 1, 64, 1, 1, 1, -1);
         x.pass(1);
-        dueRecords(x, 1, 64, 0, 0, 0, 1);
+        Answers.dueRecords(x, 1, 64, 0, 0, 0, 1);
         x.begin(100, 66);
         x.pass(63);
-        dueRecords(x, 1, 63, 0, 0, 0, 1);
+        Answers.dueRecords(x, 1, 63, 0, 0, 0, 1);
         x.pass(1);
-        dueRecords(x, 1, 64, 0, 0, 0, 1);
+        Answers.dueRecords(x, 1, 64, 0, 0, 0, 1);
     }
 
     private static void leastPeriod() {
@@ -168,12 +168,6 @@ public final class StatisticsTest {
             x.cut(wire, 10, 1, 1);
             x.pass(1);
             Check.due("one of 8", x.wrongShare(), 0.125);
-        }
-    }
-
-    private static void dueRecords(CableTester x, int pin, int... due) {
-        for (int what = 0; what <= 4; what++) {
-            Check.due("records(" + pin + ", " + what + ")", x.records(pin, what), due[what]);
         }
     }
 }

@@ -61,7 +61,8 @@ public final class TextEdgesTest {
             Check.due("append(" + sign + ") again", one.append(sign), 2);
         }
         Check.sentence("append throws IllegalArgumentException if code is not 33 to 126");
-        for (int code : new int[] {32, 31, 10, 0, -1, 127, 128, 255, 33 + 65536, Integer.MIN_VALUE, Integer.MAX_VALUE}) {
+        int[] wrongCodes = {32, 31, 10, 0, -1, 127, 128, 255, 33 + 65536, Integer.MIN_VALUE, Integer.MAX_VALUE};
+        for (int code : wrongCodes) {
             appendRefuses("", Check.ARGUMENT, code);
             appendRefuses("c0@", Check.ARGUMENT, code);
         }
@@ -301,7 +302,8 @@ public final class TextEdgesTest {
             Check.due("just enough beside " + there, x.load(), 11 - there);
             Check.due("faults", x.count(4), 10);
         }
-        Check.dueRefusal(() -> someFaults(1, "c0@1" + ";c0@1".repeat(9)), Check.STATE, "10 beside 1", CableTester::load);
+        String ten = "c0@1" + ";c0@1".repeat(9);
+        Check.dueRefusal(() -> someFaults(1, ten), Check.STATE, "10 beside 1", CableTester::load);
         Check.due("exchanges beside 10 faults", tenFaults("n01;f01").load(), 2);
         CableTester x = tenFaults("c0@1");
         x.repair(0);
