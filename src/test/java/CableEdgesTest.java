@@ -10,6 +10,7 @@ public final class CableEdgesTest {
 
     public static void main(String[] args) {
         cables();
+        ranges();
         faults();
         newObject();
         begin();
@@ -57,6 +58,53 @@ public final class CableEdgesTest {
             Check.due("the wires of the near end", wiresOf(x, 0), 255);
             Check.due("the wires of the far end", wiresOf(x, 1), 255);
         }
+    }
+
+    private static void ranges() {
+        Check.sentence("It has a length, 2 to 999 (in decimetres), and a velocity, 50 to 99 (percent of that of"
+            + " light).");
+        for (int length = 0; length <= 1001; length++) {
+            int tried = length;
+            boolean fits = length >= 2 && length <= 999;
+            CableTester x = new CableTester();
+            Check.dueText("begin(" + length + ", 66)", Check.outcome(() -> x.begin(tried, 66)),
+                fits ? "100" : "java.lang.IllegalArgumentException");
+            Check.due("the length", x.count(0), fits ? length : 100);
+        }
+        for (int velocity = 48; velocity <= 101; velocity++) {
+            int tried = velocity;
+            boolean fits = velocity >= 50 && velocity <= 99;
+            CableTester x = new CableTester();
+            Check.dueText("begin(100, " + velocity + ")", Check.outcome(() -> x.begin(100, tried)),
+                fits ? "100" : "java.lang.IllegalArgumentException");
+            Check.due("the velocity", x.count(1), fits ? velocity : 66);
+        }
+        Check.sentence("A remote unit with a number from 1 to 99 can be plugged in at the far end, which is 0 if there"
+            + " is none.");
+        CableTester x = new CableTester();
+        Check.due("none", x.count(2), 0);
+        for (int number = 1; number <= 99; number++) {
+            Check.due("plug(" + number + ")", x.plug(number), number - 1);
+            Check.due("the unit", x.count(2), number);
+        }
+        x.begin(100, 66);
+        Check.due("none at a new cable", x.count(2), 0);
+        Check.sentence("It has a period, 1 to 32, and a duration, 1 to the period");
+        for (int period = 0; period <= 33; period++) {
+            for (int duration = 0; duration <= 34; duration++) {
+                dueTiming(period, duration);
+            }
+        }
+    }
+
+    private static void dueTiming(int period, int duration) {
+        boolean fits = period >= 1 && period <= 32 && duration >= 1 && duration <= period;
+        CableTester x = new CableTester();
+        String due = fits ? "" : "java.lang.IllegalArgumentException";
+        String timing = " with " + period + ":" + duration;
+        Check.dueText("cut" + timing, Check.outcome(() -> x.cut(0, 1, period, duration)), fits ? "0" : due);
+        Check.dueText("connect" + timing, Check.outcome(() -> x.connect(0, 1, 1, period, duration)), fits ? "1" : due);
+        Check.due("faults" + timing, x.count(4), fits ? 2 : 0);
     }
 
     private static void dueOwnWires(CableTester x) {

@@ -361,10 +361,13 @@ public final class MeasureEdgesTest {
             echoRefuses(Check.ARGUMENT, 0, what);
             echoRefuses(Check.ARGUMENT, 7, what);
         }
-        // also where there is no echo
-        CableTester quiet = new CableTester();
-        quiet.plug(5);
-        Check.due("no echo", quiet.echo(0, 0), NONE);
+        Check.sentence("NONE if there is no echo.");
+        for (int pin = 0; pin < 8; pin++) {
+            for (int what = 0; what <= 3; what++) {
+                Check.due("echo(" + pin + ", " + what + ") with a unit", plugged().echo(pin, what), NONE);
+                Check.dueTrue("an echo without a unit", new CableTester().echo(pin, what) != NONE);
+            }
+        }
         Check.sentence("If several exceptions apply, the one that is named first in the throws clause is thrown. (15)");
         echoRefuses(Check.INDEX, 8, 4);
         echoRefuses(Check.INDEX, -1, -1);
@@ -407,6 +410,15 @@ public final class MeasureEdgesTest {
         for (int p = 0; p < 4; p++) {
             Check.due("crosstalk of a pair with itself", new CableTester().crosstalk(p, p), 0);
             Check.due("crosstalk of a split pair with itself", ring.crosstalk(p, p), 0);
+        }
+        Check.sentence("pair: 0 to 3");
+        for (int pair = -2; pair <= 5; pair++) {
+            int tried = pair;
+            boolean exists = pair >= 0 && pair <= 3;
+            String answer = exists ? "0" : "java.lang.IndexOutOfBoundsException";
+            CableTester x = new CableTester();
+            Check.dueText("crosstalk(" + pair + ", 3)", Check.outcome(() -> x.crosstalk(tried, 3)), answer);
+            Check.dueText("crosstalk(0, " + pair + ")", Check.outcome(() -> x.crosstalk(0, tried)), answer);
         }
         Check.sentence("crosstalk throws IndexOutOfBoundsException if one of the pairs does not exist");
         for (int pair : new int[] {-1, 4, 7, LEAST, MOST}) {

@@ -15,6 +15,7 @@ public final class StateEdgesTest {
         wire();
         digest();
         asking();
+        refusedCalls();
         Check.finish();
     }
 
@@ -149,6 +150,10 @@ public final class StateEdgesTest {
     }
 
     private static void digest() {
+        Check.sentence("NONE = -1: There is nothing to return.");
+        Check.due("NONE", CableTester.NONE, -1);
+        Check.sentence("The hash starts at 2011.");
+        Check.due("a new object", new CableTester().digest(), hashOfNewObject());
         Check.sentence("For each value v of the following list, in order, the hash becomes 31 * hash + v, in long"
             + " arithmetic with overflow.");
         dueDigest(new CableTester(), "");
@@ -172,8 +177,49 @@ public final class StateEdgesTest {
         Check.dueTrue("the order counts", Check.typed("ab").digest() != Check.typed("ba").digest());
     }
 
+    /** All values of a new object, as the document says them: 20000 / 198 is 101.01, 198 * 101 / 200 is 99.99. */
+    private static long hashOfNewObject() {
+        long hash = hashOn(2011, 100, 66, 0, 0, 0, 0, 8, 0, 0);
+        for (int k = 0; k < 8; k++) {
+            hash = hashOn(hash, k, k, 0, 1 << k, 0, 0);
+            hash = hashOn(hash, 0, 101, 100, 100);
+            hash = hashOn(hash, 0, 0, 0, 0, NONE, k);
+        }
+        hash = hashOn(hash, 0, 0, 0, 0, 0, 0);
+        return hashOn(hash, NONE, NONE, 0, 0, 0, 0, 0, 0);
+    }
+
+    private static long hashOn(long start, int... values) {
+        long hash = start;
+        for (int value : values) {
+            hash = 31 * hash + value;
+        }
+        return hash;
+    }
+
     private static void dueDigest(CableTester x, String buffer) {
         Check.due("digest", x.digest(), StateTest.hashOfAnswers(x, buffer));
+    }
+
+    /** One after another on the same object, so that nothing is mended in between. */
+    private static void refusedCalls() {
+        Check.sentence("A call that throws an exception changes nothing.");
+        CableTester x = States.full();
+        Check.Ask[] calls = {
+            t -> t.begin(1000, 66), t -> t.begin(100, 49), t -> t.exchange(0, 3, 3), t -> t.exchange(1, 3, 8),
+            t -> t.cut(8, 1, 1, 1), t -> t.cut(1, 999, 1, 1), t -> t.cut(1, 1, 1, 1), t -> t.connect(0, 8, 1, 1, 1),
+            t -> t.connect(0, 1, 1, 1, 2), t -> t.connect(0, 1, 1, 1, 1), t -> t.repair(10), t -> t.plug(100),
+            t -> t.pass(0), t -> t.pass(101), t -> t.append(32), t -> t.append('n'), CableTester::load,
+            t -> t.joined(2, 0, 0), t -> t.joined(0, 8, 0), t -> t.status(8), t -> t.echo(8, 0), t -> t.echo(0, 4),
+            t -> t.crosstalk(4, 0), t -> t.records(8, 0), t -> t.records(0, 5), t -> t.explain(5),
+            t -> t.explained(8), t -> t.count(9), t -> t.fault(10, 0), t -> t.fault(0, 7), t -> t.wire(2, 0),
+            t -> t.wire(0, 8),
+        };
+        for (int i = 0; i < calls.length; i++) {
+            Check.Ask call = calls[i];
+            Check.dueTrue("refusal " + i, Check.outcome(() -> call.of(x)).startsWith("java.lang.I"));
+        }
+        Check.dueAlike("after all refusals", x, States.full());
     }
 
     /** All calls that only ask, with all their arguments; none of them may change what comes. */

@@ -84,6 +84,12 @@ public final class StatisticsEdgesTest {
     }
 
     private static void rows() {
+        Check.sentence("A row is a sequence of kept records that follow one another.");
+        dueRow("1010101", 1);
+        dueRow("11011011", 2);
+        dueRow("1" + "0".repeat(62) + "1", 1);
+        dueRow("11" + "1".repeat(30) + "0" + "1".repeat(33), 33);
+        dueRow("1".repeat(20) + "0".repeat(45), 19);
         Check.sentence("2: the length of the longest row in which it was always wrong");
         dueRow("", 0);
         dueRow("0", 0);
